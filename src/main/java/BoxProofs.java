@@ -147,8 +147,7 @@ public final class BoxProofs {
         if (findings.headOf(k) == NONE) {
             return NONE;
         }
-        long wanted = findings.groundsTable(k, known);
-        return (wanted & ~known.tableOf(findings.headOf(k))) == 0L ? 1 : 0;
+        return (groundsTable(k) & ~known.tableOf(findings.headOf(k))) == 0L ? 1 : 0;
     }
 
     public int formulas() {
@@ -305,6 +304,17 @@ public final class BoxProofs {
             default:
                 return NONE;
         }
+    }
+
+    /** The VALUATIONS, one a bit, by which all that the HEAD of LINE k hangs on is true. */
+    private long groundsTable(int k) {
+        long table = -1L;
+        for (int j = 0; j <= k && j < LINES; j++) {
+            if (findings.isGround(j, k)) {
+                table &= known.tableOf(findings.headOf(j));
+            }
+        }
+        return table;
     }
 
     private static boolean isLine(int k) {
@@ -495,6 +505,9 @@ public final class BoxProofs {
         private final int[] heads = new int[LINES];
         // of an ASSUME the END of its BOX, NONE while that is open
         private final int[] ends = new int[LINES];
+        private final boolean[] inForce = new boolean[LINES];
+        // the ASSUMES whose BOXES CASES and IF may use: those that no REASON 5 stands against
+        private final boolean[] usable = new boolean[LINES];
         private final int[] summary = {NONE, NONE, NONE, NONE};
 
         Findings() {
@@ -502,9 +515,13 @@ public final class BoxProofs {
         }
 
         void forget() {
-            Arrays.fill(rules, NONE);
-            Arrays.fill(heads, NONE);
-            Arrays.fill(ends, NONE);
+            for (int k = 0; k < LINES; k++) {
+                rules[k] = NONE;
+                heads[k] = NONE;
+                ends[k] = NONE;
+                inForce[k] = false;
+                usable[k] = false;
+            }
         }
 
         void sumUp(int reason, int line, int made) {
@@ -522,18 +539,24 @@ public final class BoxProofs {
             if (!isLine(k)) {
                 return;
             }
-            if (rule == SHUT) {
-                shutInnermost(k - 1);
-            }
             rules[k] = rule;
             heads[k] = head;
+            inForce[k] = head != NONE;
+            if (rule == SHUT) {
+                shutBox(innermostOpen(), k - 1);
+            }
         }
 
-        private void shutInnermost(int end) {
-            int box = innermostOpen();
-            if (box != NONE) {
-                ends[box] = end;
+        private void shutBox(int box, int end) {
+            if (!isLine(box) || !isLine(end)) {
+                return;
             }
+            for (int j = box; j <= end; j++) {
+                inForce[j] = false;
+                usable[j] = false;
+            }
+            ends[box] = end;
+            usable[box] = rules[end] != SHUT;
         }
 
         int ruleOf(int k) {
@@ -551,7 +574,7 @@ public final class BoxProofs {
         /** The ASSUME of the innermost BOX that is open, or NONE. */
         int innermostOpen() {
             for (int j = LINES - 1; j >= 0; j--) {
-                if (rules[j] == ASSUME && ends[j] == NONE) {
+                if (isOpenBox(j)) {
                     return j;
                 }
             }
@@ -561,11 +584,15 @@ public final class BoxProofs {
         private int countOpen() {
             int open = 0;
             for (int j = 0; j < LINES; j++) {
-                if (rules[j] == ASSUME && ends[j] == NONE) {
+                if (isOpenBox(j)) {
                     open++;
                 }
             }
             return open;
+        }
+
+        private boolean isOpenBox(int j) {
+            return isLine(j) && rules[j] == ASSUME && ends[j] == NONE;
         }
 
         private boolean liesInBox(int k, int box) {
@@ -573,26 +600,15 @@ public final class BoxProofs {
         }
 
         boolean isInForce(int k) {
-            return headOf(k) != NONE && !liesInShutBoxAhead(k, k + 1);
+            return isLine(k) && inForce[k];
         }
 
-        /** Whether LINE k lies in a BOX that is shut and whose ASSUME is ahead of LINE limit. */
-        private boolean liesInShutBoxAhead(int k, int limit) {
-            for (int j = 0; j < limit && j < LINES; j++) {
-                if (endOf(j) != NONE && liesInBox(k, j)) {
-                    return true;
-                }
-            }
-            return false;
-        }
-
-        /** Whether LINE k is the ASSUME of a BOX that CASES and IF may use (none of REASON 5). */
         boolean isUsableBox(int k) {
-            return ruleOf(k) == ASSUME && endOf(k) != NONE
-                && !liesInShutBoxAhead(k, k) && ruleOf(endOf(k)) != SHUT;
+            return isLine(k) && usable[k];
         }
 
-        private boolean isGround(int j, int k) {
+        /** Whether LINE j, which is not behind LINE k, is one of those that the HEAD of k hangs on. */
+        boolean isGround(int j, int k) {
             return ruleOf(j) == GIVEN || liesInBox(k, j);
         }
 
@@ -611,17 +627,6 @@ public final class BoxProofs {
                 }
             }
             return NONE;
-        }
-
-        /** The VALUATIONS, one a bit, by which all that the HEAD of LINE k hangs on is true. */
-        long groundsTable(int k, Formulas known) {
-            long table = -1L;
-            for (int j = 0; j <= k && j < LINES; j++) {
-                if (isGround(j, k)) {
-                    table &= known.tableOf(headOf(j));
-                }
-            }
-            return table;
         }
     }
 }
