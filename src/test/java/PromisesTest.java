@@ -1,21 +1,5 @@
 /** Each promise of the document by hand-written calls: ordinary ones, the edges, and wrong ones. */
-public final class PromisesTest {
-    private static final int NONE = BoxProofs.NONE, UNKNOWN = BoxProofs.UNKNOWN;
-    private static final int OUTSIDE = BoxProofs.OUTSIDE, FULL = BoxProofs.FULL;
-    private static final int LOW = Integer.MIN_VALUE, HIGH = Integer.MAX_VALUE;
-
-    private static final int FALSE = 0, LETTER = 1, AND = 2, OR = 3, IMPLIES = 4;
-    private static final int GIVEN = 0, ASSUME = 1, SHUT = 2, AGAIN = 3, BOTH = 4, LEFT = 5, RIGHT = 6;
-    private static final int ONE = 7, OTHER = 8, CASES = 9, IF = 10, THEN = 11, ANY = 12, SO = 13;
-
-    // the FORMULAS that some() makes: F, A, B, A and B, A or B, A implies B, not A, not not A
-    private static final int F = 0, A = 1, B = 2, A_AND_B = 3, A_OR_B = 4, A_IMP_B = 5, NOT_A = 6, NOT_NOT_A = 7;
-    private static final int SOME = 8;
-
-    private static final Due due = new Due();
-    private static BoxProofs x;
-    private static int next;
-
+public final class PromisesTest extends Bench {
     public static void main(String[] args) {
         newObject();
         formula();
@@ -44,81 +28,6 @@ public final class PromisesTest {
         formulas();
         findingsOutlastChanges();
         due.end();
-    }
-
-    private static void start(String part) {
-        due.part(part);
-        x = new BoxProofs();
-        next = 0;
-    }
-
-    private static void some(String part) {
-        start(part);
-        x.formula(FALSE, 0, 0);
-        x.formula(LETTER, 0, 0);
-        x.formula(LETTER, 1, 0);
-        x.formula(AND, A, B);
-        x.formula(OR, A, B);
-        x.formula(IMPLIES, A, B);
-        x.formula(IMPLIES, A, F);
-        x.formula(IMPLIES, NOT_A, F);
-        due.is("some formulas", x.formulas(), SOME);
-    }
-
-    /** Lays the next LINE, with numbers that no RULE may look at in the places it does not take. */
-    private static int line(int rule, int p, int q, int r, int f) {
-        x.lay(next, rule, p, q, r, f);
-        return next++;
-    }
-
-    private static int given(int f) {
-        return line(GIVEN, LOW, HIGH, -1, f);
-    }
-
-    private static int assume(int f) {
-        return line(ASSUME, 60, HIGH, -1, f);
-    }
-
-    private static int shut() {
-        return line(SHUT, -1, LOW, 60, 99);
-    }
-
-    private static int by(int rule, int p) {
-        return line(rule, p, -1, 60, 99);
-    }
-
-    private static int by(int rule, int p, int q) {
-        return line(rule, p, q, LOW, -1);
-    }
-
-    private static int withFormula(int rule, int p, int f) {
-        return line(rule, p, 60, -7, f);
-    }
-
-    private static int cases(int p, int q, int r) {
-        return line(CASES, p, q, r, 99);
-    }
-
-    /** A new check: it stops at the LINE by the REASON. */
-    private static void stops(String what, int reason, int line) {
-        due.is(what + ": check()", x.check(), line);
-        due.is(what + ": told(0)", x.told(0), reason);
-        due.is(what + ": told(1)", x.told(1), line);
-    }
-
-    /** Every LINE laid so far follows, and LINE k holds f. */
-    private static void holds(String what, int k, int f) {
-        stops(what, 0, next);
-        due.is(what + ": head(" + k + ")", x.head(k), f);
-    }
-
-    /** The LINE laid last is refused; it is laid anew by the next one. */
-    private static void refused(String what, int reason) {
-        next--;
-        stops(what, reason, next);
-        due.is(what + ": head", x.head(next), NONE);
-        due.is(what + ": force", x.force(next), 0);
-        x.take(next);
     }
 
     private static void newObject() {
@@ -168,24 +77,6 @@ public final class PromisesTest {
         due.is("kind -1", x.formula(-1, 0, 0), OUTSIDE);
         due.is("kind lowest", x.formula(LOW, 0, 0), OUTSIDE);
         due.is("formulas()", x.formulas(), 7);
-    }
-
-    /** FORMULA 0 is a LETTER, each n of 1 to 11 is n - 1 AND n - 1: its HEIGHT is n + 1. */
-    private static void tower(String part) {
-        start(part);
-        x.formula(LETTER, 0, 0);
-        for (int f = 0; f < 11; f++) {
-            due.is("tower", x.formula(AND, f, f), f + 1);
-        }
-    }
-
-    private static void fill() {
-        for (int a = 0; a < 10; a++) {
-            for (int b = 0; b < 10; b++) {
-                x.formula(OR, a, b);
-            }
-        }
-        due.is("filled", x.formulas(), 80);
     }
 
     private static void formulaFull() {
@@ -715,13 +606,6 @@ public final class PromisesTest {
         due.is("force(59)", x.force(59), 0);
         due.is("force(60)", x.force(60), OUTSIDE);
         due.is("force(-1)", x.force(-1), OUTSIDE);
-    }
-
-    private static void hangsOn(int k, int... grounds) {
-        for (int i = 0; i < grounds.length; i++) {
-            due.is("hangs(" + k + ", " + i + ")", x.hangs(k, i), grounds[i]);
-        }
-        due.is("hangs(" + k + ", " + grounds.length + ")", x.hangs(k, grounds.length), NONE);
     }
 
     private static void hangs() {
