@@ -29,6 +29,7 @@ public final class FormulaBoundsTest extends Bench {
         insteadPassesEighty();
         insteadReachesHeight();
         insteadPassesHeight();
+        insteadEndsAtTheFirstFull();
         insteadOfAHighOneWithSharedParts();
         due.end();
     }
@@ -412,6 +413,31 @@ public final class FormulaBoundsTest extends Bench {
         due.is("HEIGHT of the last", x.about(22, 3), 12);
         due.is("HEIGHT 12 in HEIGHT 2", x.instead(high, 0, 11), FULL);
         due.is("formulas() then", x.formulas(), 23);
+    }
+
+    /** A part that is FULL ends it, how deep it ever lies: no b behind an a, none that holds it. */
+    private static void insteadEndsAtTheFirstFull() {
+        tower("6 FULL of a part: what is new by then stays, and no more is made");
+        int other = x.formula(LETTER, 1, 0);
+        int low = x.formula(OR, other, other);
+        int high = x.formula(AND, low, other);
+        int highest = x.formula(AND, x.formula(AND, high, other), other);
+        int aFull = x.formula(IMPLIES, highest, x.formula(IMPLIES, other, other));
+        int bFull = x.formula(IMPLIES, x.formula(IMPLIES, other, other), highest);
+        int before = x.formulas();
+        due.is("in a, HEIGHT", x.instead(aFull, 1, 10), FULL);
+        due.is("the lowest part alone is new", x.formulas(), before + 1);
+        due.is("it", x.formula(OR, 10, 10), before);
+        due.is("in b, HEIGHT", x.instead(bFull, 1, 10), FULL);
+        due.is("a is new", x.formulas(), before + 2);
+        due.is("it", x.formula(IMPLIES, 10, 10), before + 1);
+        due.is("in b again, with nothing new", x.instead(bFull, 1, 10), FULL);
+        due.is("formulas()", x.formulas(), before + 2);
+        fillTo(79);
+        due.is("in a, 80", x.instead(aFull, 1, 0), FULL);
+        due.is("the 80th", x.about(79, 0), AND);
+        due.is("its a", x.about(79, 1), x.formula(OR, 0, 0));
+        due.is("its b", x.about(79, 2), 0);
     }
 
     private static void insteadOfAHighOneWithSharedParts() {

@@ -10,6 +10,7 @@ public final class LineBoundsTest extends Bench {
         upToTheFirstNothing();
         upToTheFirstRefused();
         checkAgain();
+        checkForgetsTheFormerOne();
         formulaMadeBehindLay();
         formulaMadeByTheCheck();
         sixtyGiven();
@@ -174,6 +175,33 @@ public final class LineBoundsTest extends Bench {
             due.is("head(1)", x.head(1), SOME);
         }
         due.is("formulas()", x.formulas(), SOME + 1);
+    }
+
+    /** LINES that were a BOX by the former check() are none by the next one. */
+    private static void checkForgetsTheFormerOne() {
+        some("9 nothing of a former check is left");
+        int or = given(x.formula(OR, A, A));
+        int box = assume(A);
+        int shut = shut();
+        int if1 = by(IF, box);
+        stops("a BOX", 0, 4);
+        x.lay(box, GIVEN, 0, 0, 0, A);
+        x.lay(shut, GIVEN, 0, 0, 0, A);
+        stops("IF of no BOX", 5, if1);
+        due.is("force of what was in it", x.force(box), 1);
+        due.is("hangs on what was SHUT", x.hangs(shut, 2), shut);
+        x.lay(if1, CASES, or, box, box, 0);
+        stops("CASES of no BOX", 5, if1);
+        x.lay(if1, SHUT, 0, 0, 0, 0);
+        stops("SHUT of no BOX", 5, if1);
+        x.lay(box, ASSUME, 0, 0, 0, A);
+        x.lay(if1, IF, box, 0, 0, 0);
+        stops("IF of a BOX that is open now", 5, if1);
+        due.is("told(2)", x.told(2), 1);
+        x.lay(shut, SHUT, 0, 0, 0, 0);
+        stops("a BOX again", 0, 4);
+        due.is("told(2)", x.told(2), 0);
+        due.is("force of what is in it", x.force(box), 0);
     }
 
     private static void formulaMadeBehindLay() {
