@@ -424,6 +424,8 @@ public final class FormulaBoundsTest extends Bench {
         int highest = x.formula(AND, x.formula(AND, high, other), other);
         int aFull = x.formula(IMPLIES, highest, x.formula(IMPLIES, other, other));
         int bFull = x.formula(IMPLIES, x.formula(IMPLIES, other, other), highest);
+        int lowBesideFull = x.formula(IMPLIES, 0, highest);
+        int fullBesideLow = x.formula(IMPLIES, highest, 0);
         int before = x.formulas();
         due.is("in a, HEIGHT", x.instead(aFull, 1, 10), FULL);
         due.is("the lowest part alone is new", x.formulas(), before + 1);
@@ -432,6 +434,8 @@ public final class FormulaBoundsTest extends Bench {
         due.is("a is new", x.formulas(), before + 2);
         due.is("it", x.formula(IMPLIES, 10, 10), before + 1);
         due.is("in b again, with nothing new", x.instead(bFull, 1, 10), FULL);
+        due.is("in b, a is low", x.instead(lowBesideFull, 1, 10), FULL);
+        due.is("in a, b is low", x.instead(fullBesideLow, 1, 10), FULL);
         due.is("formulas()", x.formulas(), before + 2);
         fillTo(79);
         due.is("in a, 80", x.instead(aFull, 1, 0), FULL);
