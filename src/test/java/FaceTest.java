@@ -26,7 +26,13 @@ public final class FaceTest {
         due.is("it is public", Modifier.isPublic(constructors[0].getModifiers()) ? 1 : 0, 1);
         due.is("it takes nothing", constructors[0].getParameterCount(), 0);
         for (Class<?> inside : BoxProofs.class.getDeclaredClasses()) {
-            due.is(inside + " is static", Modifier.isStatic(inside.getModifiers()) ? 1 : 0, 1);
+            int modifiers = inside.getModifiers();
+            due.is(inside + " is static", Modifier.isStatic(modifiers) ? 1 : 0, 1);
+            due.is(inside + " is not open", Modifier.isPublic(modifiers) || Modifier.isProtected(modifiers) ? 1 : 0, 0);
+            for (Field f : inside.getDeclaredFields()) {
+                due.is(f + " is final, if static", !Modifier.isStatic(f.getModifiers())
+                    || Modifier.isFinal(f.getModifiers()) ? 1 : 0, 1);
+            }
         }
         due.end();
     }
